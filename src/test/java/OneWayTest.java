@@ -1,0 +1,202 @@
+/** Promises 10 and 12 to 14: at, length, mean, half. */
+final class OneWayTest {
+    private static final Due DUE = new Due("OneWayTest");
+
+    public static void main(String[] args) {
+        promise10Told();
+        promise10Kinds();
+        promise10Bounds();
+        promise10Refusals();
+        promise12();
+        promise13();
+        promise14Half();
+        promise14Best();
+        DUE.finish();
+    }
+
+    private static void promise10Told() {
+        SamePlace x = new SamePlace();
+        x.way(0, 0);
+        DUE.is("no POINTS", x.at(0, 300), 0);
+        x.point(0, 100, 7);
+        DUE.is("ahead of the only POINT", x.at(0, 0), 7000);
+        DUE.is("in it", x.at(0, 100), 7000);
+        DUE.is("behind it", x.at(0, 600), 7000);
+        x.point(0, 103, 8);
+        DUE.is("a third, cut", x.at(0, 101), 7333);
+        DUE.is("two thirds, cut", x.at(0, 102), 7666);
+        DUE.is("in the second", x.at(0, 103), 8000);
+        x.point(0, 106, 7);
+        DUE.is("going down, cut toward 0", x.at(0, 104), 7667);
+        DUE.is("going down, further", x.at(0, 105), 7334);
+        DUE.is("behind the last", x.at(0, 107), 7000);
+        SamePlace y = new SamePlace();
+        y.set(0, 0, 999);
+        Due.path(y, 0, 0, 0, 0, 600, 999);
+        DUE.is("the steepest that an int must hold", y.at(0, 599), 997335);
+        DUE.is("its end", y.at(0, 600), 999000);
+    }
+
+    private static void promise10Kinds() {
+        SamePlace x = new SamePlace();
+        for (int kind = 0; kind < 6; kind++) {
+            Due.path(x, kind, 3, 0, 100, 600, 400);
+        }
+        DUE.is("WAY in 100", x.at(0, 100), 150000);
+        DUE.is("LATE in 0", x.at(1, 0), 100000);
+        DUE.is("LATE in 29", x.at(1, 29), 100000);
+        DUE.is("LATE in 30", x.at(1, 30), 100000);
+        DUE.is("LATE in 31", x.at(1, 31), 100500);
+        DUE.is("LATE in 600", x.at(1, 600), 385000);
+        DUE.is("TURNED in 0", x.at(2, 0), 500000);
+        DUE.is("TURNED in 101", x.at(2, 101), 449500);
+        DUE.is("SLOW in 0", x.at(3, 0), 50000);
+        DUE.is("SLOW in 31", x.at(3, 31), 50250);
+        DUE.is("SLOW in 600", x.at(3, 600), 192500);
+        DUE.is("HALTING in 3", x.at(4, 3), 500000);
+        DUE.is("HALTING in 4", x.at(4, 4), 498000);
+        DUE.is("HALTING in 7", x.at(4, 7), 498000);
+        DUE.is("HALTING in 600", x.at(4, 600), 200000);
+        DUE.is("WILD in 0", x.at(5, 0), 100000);
+        DUE.is("WILD in 4", x.at(5, 4), 104000);
+        DUE.is("WILD in 5", x.at(5, 5), 100000);
+        DUE.is("WILD in 599", x.at(5, 599), 388500);
+        x.set(1, 4, 0);
+        DUE.is("HALTING by 0 is TURNED", x.at(4, 7), 496500);
+        x.set(1, 5, 0);
+        DUE.is("WILD by 0 in 1", x.at(5, 1), 101500);
+        x.set(1, 1, 9);
+        DUE.is("LATE by 9 in 91", x.at(1, 91), 100500);
+        x.clear(2);
+        DUE.is("TURNED without POINTS", x.at(2, 0), 600000);
+        DUE.is("SLOW, cut", slowOfOdd(), 3833);
+    }
+
+    /** SLOW where a LATE is 7667. */
+    private static int slowOfOdd() {
+        SamePlace x = new SamePlace();
+        Due.path(x, 3, 0, 0, 8, 3, 7);
+        return x.at(0, 1);
+    }
+
+    private static void promise10Bounds() {
+        SamePlace x = new SamePlace();
+        x.set(0, 0, 10);
+        Due.path(x, 5, 9, 0, 5);
+        DUE.is("WILD below the bound", x.at(0, 5), 10000);
+        DUE.is("WILD at the bound", x.at(0, 6), 10000);
+        DUE.is("WILD far above it", x.at(0, 10), 10000);
+        DUE.is("WILD begins anew", x.at(0, 11), 5000);
+        x.set(0, 0, 12);
+        DUE.is("WILD by another LONG", x.at(0, 10), 12000);
+    }
+
+    private static void promise10Refusals() {
+        SamePlace x = new SamePlace();
+        DUE.is("no WAY", x.at(0, 0), -2);
+        x.way(0, 0);
+        DUE.is("at(-1, 0)", x.at(-1, 0), -2);
+        DUE.is("at(1, 0)", x.at(1, 0), -2);
+        DUE.is("at(0, -1)", x.at(0, -1), -2);
+        DUE.is("at(0, 601)", x.at(0, 601), -2);
+        DUE.is("at(0, 600)", x.at(0, 600), 0);
+    }
+
+    private static void promise12() {
+        SamePlace x = new SamePlace();
+        Due.path(x, 0, 0, 100, 0, 200, 50, 300, 20);
+        DUE.is("all", x.length(0, 0, 600), 80000);
+        DUE.is("up", x.length(0, 0, 200), 50000);
+        DUE.is("up and down", x.length(0, 199, 201), 800);
+        DUE.is("where it stands", x.length(0, 300, 600), 0);
+        DUE.is("one MINUTE", x.length(0, 150, 151), 500);
+        DUE.is("from a MINUTE to it", x.length(0, 150, 150), 0);
+        DUE.is("length(0, 151, 150)", x.length(0, 151, 150), -2);
+        DUE.is("length(0, -1, 5)", x.length(0, -1, 5), -2);
+        DUE.is("length(0, 0, 601)", x.length(0, 0, 601), -2);
+        DUE.is("length(0, 601, 601)", x.length(0, 601, 601), -2);
+        DUE.is("length(1, 0, 0)", x.length(1, 0, 0), -2);
+        DUE.is("length(-1, 0, 0)", x.length(-1, 0, 0), -2);
+        Due.path(x, 5, 0);
+        DUE.is("WILD goes to and fro", x.length(1, 0, 600), 600000);
+        DUE.is("WILD, a part", x.length(1, 3, 10), 7000);
+    }
+
+    private static void promise13() {
+        SamePlace x = new SamePlace();
+        Due.path(x, 0, 0, 0, 0, 600, 600);
+        DUE.is("even all along", x.mean(0, 300), 0);
+        // It stands till 300, then goes 2 a MINUTE: the mean of t MINUTES is t.
+        Due.path(x, 0, 0, 300, 0, 600, 600);
+        DUE.is("100 MINUTES, just in 250", x.mean(1, 100), 250);
+        DUE.is("1 MINUTE: below, then above", x.mean(1, 1), 299);
+        DUE.is("300 MINUTES", x.mean(1, 300), 150);
+        DUE.is("3 MINUTES: between", x.mean(1, 3), 298);
+        // All of its way is in one MINUTE: 400 MINUTES stand ahead and behind it.
+        Due.path(x, 0, 0, 0, 0, 1, 600);
+        DUE.is("above, then below", x.mean(2, 7), 0);
+        DUE.is("mean(0, 0)", x.mean(0, 0), -2);
+        DUE.is("mean(0, 301)", x.mean(0, 301), -2);
+        DUE.is("mean(0, 1)", x.mean(0, 1), 0);
+        DUE.is("mean(-1, 1)", x.mean(-1, 1), -2);
+        DUE.is("mean(3, 1)", x.mean(3, 1), -2);
+        DUE.is("none that is the mean", noMean(), -1);
+        DUE.is("just in the last", lastMean(), 350);
+    }
+
+    /** A third of it is in the first, a third in the 301st, a third in the last MINUTE: no 299 have two of them. */
+    private static int noMean() {
+        SamePlace x = new SamePlace();
+        Due.path(x, 0, 0, 0, 0, 1, 10, 300, 10, 301, 20, 599, 20, 600, 30);
+        return x.mean(0, 299);
+    }
+
+    /** 10 of 24 come in the last MINUTE, which is as much as 250 of 600; all others have less. */
+    private static int lastMean() {
+        SamePlace x = new SamePlace();
+        Due.path(x, 0, 0, 0, 0, 1, 7, 299, 7, 300, 14, 599, 14, 600, 24);
+        return x.mean(0, 250);
+    }
+
+    private static void promise14Half() {
+        SamePlace x = new SamePlace();
+        Due.path(x, 0, 0, 0, 0, 600, 600);
+        DUE.is("half of an even way", x.half(0, 0), 300);
+        Due.path(x, 0, 0, 100, 0, 101, 1, 500, 1, 501, 0);
+        DUE.is("twice no less: just half", x.half(1, 0), 101);
+        x.way(0, 0);
+        DUE.is("it goes nowhere", x.half(2, 0), 0);
+        Due.path(x, 0, 0, 599, 0, 600, 600);
+        DUE.is("in the last MINUTE", x.half(3, 0), 600);
+        DUE.is("half(-1, 0)", x.half(-1, 0), -2);
+        DUE.is("half(4, 0)", x.half(4, 0), -2);
+        DUE.is("half(0, -1)", x.half(0, -1), -2);
+        DUE.is("half(0, 3)", x.half(0, 3), -2);
+    }
+
+    private static void promise14Best() {
+        SamePlace x = new SamePlace();
+        Due.path(x, 0, 0, 0, 0, 600, 60);
+        DUE.is("BEST by TEXT 0", x.half(0, 1), 600);
+        DUE.is("its worth", x.half(0, 2), 60);
+        Due.read(x, "near 0;off 0;worth 50-(minute-70)*(minute-70);");
+        x.force(1);
+        DUE.is("BEST within", x.half(0, 1), 70);
+        DUE.is("its worth within", x.half(0, 2), 50);
+        Due.read(x, "near 0;off 0;worth 10*(20<minute)+5*(minute=20);");
+        x.force(2);
+        DUE.is("the first of like ones", x.half(0, 1), 21);
+        DUE.is("worth of the first", x.half(0, 2), 10);
+        Due.read(x, "near 0;off 0;worth minute-600;");
+        x.force(3);
+        DUE.is("all are worth 0", x.half(0, 1), 0);
+        DUE.is("worth 0", x.half(0, 2), 0);
+        Due.read(x, "near 0;off 0;worth minute;");
+        x.force(4);
+        DUE.is("at the bound", x.half(0, 1), 99);
+        DUE.is("worth at the bound", x.half(0, 2), 99);
+    }
+
+    private OneWayTest() {
+    }
+}

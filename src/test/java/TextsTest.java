@@ -1,0 +1,269 @@
+/** Promises 7 to 9 and 11: feed, text, force, asks. */
+final class TextsTest {
+    private static final Due DUE = new Due("TextsTest");
+
+    public static void main(String[] args) {
+        promise7();
+        promise8();
+        promise8Faults();
+        promise8Depth();
+        promise9();
+        promise11Names();
+        promise11Values();
+        promise11Bounds();
+        promise11Refusals();
+        DUE.finish();
+    }
+
+    private static void promise7() {
+        SamePlace x = new SamePlace();
+        DUE.is("feed(-1)", x.feed(-1), -2);
+        DUE.is("feed(256)", x.feed(256), -2);
+        DUE.is("THE TAPE is empty", x.count(4), 0);
+        DUE.is("feed(0)", x.feed(0), 1);
+        DUE.is("feed(255)", x.feed(255), 2);
+        for (int i = 3; i <= 160; i++) {
+            DUE.is("byte " + i, x.feed(32), i);
+        }
+        DUE.is("one more", x.feed(32), -4);
+        DUE.is("BAD ahead of FULL", x.feed(256), -2);
+        DUE.is("160 bytes", x.count(4), 160);
+    }
+
+    private static void promise8() {
+        SamePlace x = new SamePlace();
+        String plain = "near 1;off 2;worth 3;";
+        DUE.is("a FAULT", Due.read(x, "near"), -104);
+        DUE.is("THE TAPE is empty by a FAULT", x.count(4), 0);
+        DUE.is("no TEXT came", x.count(3), 1);
+        for (int i = 1; i <= 5; i++) {
+            DUE.is("TEXT " + i, Due.read(x, plain), i);
+            DUE.is("THE TAPE is empty", x.count(4), 0);
+        }
+        DUE.is("six TEXTS", x.count(3), 6);
+        Due.feed(x, "$");
+        DUE.is("FULL ahead of a FAULT", x.text(), -4);
+        DUE.is("THE TAPE stays", x.count(4), 1);
+        DUE.is("no TEXT forced", x.count(5), 0);
+    }
+
+    private static void fault(String text, int place) {
+        SamePlace x = new SamePlace();
+        DUE.is('"' + text + '"', Due.read(x, text), -100 - place);
+    }
+
+    private static void stands(String text) {
+        SamePlace x = new SamePlace();
+        DUE.is('"' + text + '"', Due.read(x, text), 1);
+    }
+
+    private static void promise8Faults() {
+        stands("near1;off2;worth3;");
+        stands("  near\n1 ; off 2 ; worth 3 ; \n ");
+        stands("near 1*2+3-4<5 and not 6=7 or 8;off - - 1;worth(((1)));");
+        stands("near 9999;off 0000;worth minute place;".replace("minute place", "minute*place"));
+        fault("", 0);
+        fault("   ", 3);
+        fault("off 1;", 0);
+        fault("near", 4);
+        fault("near ;", 5);
+        fault("near 1", 6);
+        fault("near 1 near", 7);
+        fault("near 1;worth 1;", 7);
+        fault("near 1;off 1;worth 1", 20);
+        fault("near 1;off 1;worth 1;;", 21);
+        fault("near 1;off 1;worth 1; x", 22);
+        fault("near 12345;off 1;worth 1;", 5);
+        fault("near 00000;off 1;worth 1;", 5);
+        fault("near 1 2;", 7);
+        fault("near 1 minute;", 7);
+        fault("near far places;", 9);
+        fault("nearfar;", 0);
+        fault("near near;", 5);
+        fault("near Far;", 5);
+        fault("near fAr;", 5);
+        fault("near 1\t;", 6);
+        fault("near 1\r;", 6);
+        fault("near " + (char) 233 + ";", 5);
+        fault("near 1" + (char) 0 + ";", 6);
+        fault("near 1 < 2 < 3;", 11);
+        fault("near 1 < 2 = 3;", 11);
+        fault("near 1 < not 2;", 9);
+        fault("near 1 + not 2;", 9);
+        fault("near - not 2;", 7);
+        fault("near + 2;", 5);
+        fault("near 1 * ;", 9);
+        fault("near 1 or ;", 10);
+        fault("near 1 and or 1;", 11);
+        fault("near ();", 6);
+        fault("near (1;", 7);
+        fault("near (1));", 8);
+        fault("near 1);", 6);
+        fault("near not;", 8);
+        fault("near 1 not 2;", 7);
+        fault("near 1 > 2;", 7);
+        fault("near ) $;", 5);
+        fault("near 12345 $;", 5);
+        stands("near (1 < 2) < 3;off 1 < 2 and 2 < 3;worth not 1 < 2;");
+    }
+
+    private static void promise8Depth() {
+        stands("near (((((1)))));off 0;worth 0;");
+        fault("near ((((((1))))));off 0;worth 0;", 10);
+        stands("near -----1;off 0;worth 0;");
+        fault("near ------1;off 0;worth 0;", 10);
+        stands("near not not not not not 1;off 0;worth 0;");
+        fault("near not not not not not not 1;", 25);
+        fault("near not not not not not -1;", 25);
+        fault("near not not not not not (1);", 25);
+        fault("near not(-(-(1)));", 12);
+        stands("near not(-(-1));off 0;worth 0;");
+        // What has ended is open no more.
+        stands("near -1*-1*-1*-1*-1*-1*-1;off 0;worth 0;");
+        stands("near (1)+(1)+(1)+(1)+(1)+(1)+(1);off 0;worth 0;");
+        stands("near not 1 and not 1 and not 1 or not 1 or not 1 and not 1;off 0;worth 0;");
+        stands("near not not not not not 1 or not not not not not 1;off 0;worth 0;");
+        // A not holds till its NOT ends, with the other side of a < too.
+        fault("near not not not not not 1 < -1;", 29);
+        stands("near not not not not not 1 < 1 - 1;off 0;worth 0;");
+        // A - between two TERMS opens nothing.
+        stands("near (((((1-1)))));off 0;worth 0;");
+        fault("near (((((1--1)))));", 12);
+        fault("near (((((-1)))));", 10);
+        fault("near (((((not 1)))));", 10);
+        fault("near ((((((((((((((((((((((((((((((((((((((((((((((((((((((((", 10);
+    }
+
+    private static void promise9() {
+        SamePlace x = new SamePlace();
+        x.way(0, 0);
+        DUE.is("force(-1)", x.force(-1), -2);
+        DUE.is("force(1): none such", x.force(1), -2);
+        DUE.is("force(0)", x.force(0), 0);
+        Due.read(x, "near 1;off 2;worth 3;");
+        Due.read(x, "near 4;off 5;worth 6;");
+        DUE.is("TEXT 0 is THE RULE yet", x.asks(0, 0, 0), 500);
+        DUE.is("force(2)", x.force(2), 0);
+        DUE.is("worth by TEXT 2", x.asks(2, 0, 0), 6);
+        DUE.is("force(1)", x.force(1), 2);
+        DUE.is("worth by TEXT 1", x.asks(2, 0, 0), 3);
+        DUE.is("force(3)", x.force(3), -2);
+        DUE.is("THE RULE stays", x.count(5), 1);
+        DUE.is("force(0)", x.force(0), 1);
+        DUE.is("near by TEXT 0", x.asks(0, 0, 0), 500);
+    }
+
+    /** What near tells by an E, of WAY 1 of these: two POINTS, NUMBER 3, LONG 700. */
+    private static int told(String e, int minute) {
+        SamePlace x = new SamePlace();
+        x.set(0, 0, 700);
+        x.way(0, 0);
+        Due.path(x, 0, 3, 0, 600, 100, 50);
+        int text = Due.read(x, "near " + e + ";off 0;worth 0;");
+        x.force(text);
+        return x.asks(0, 1, minute);
+    }
+
+    private static void value(String e, int due) {
+        DUE.is("near " + e, told(e, 10), due);
+    }
+
+    private static void promise11Names() {
+        DUE.is("minute", told("minute", 599), 599);
+        DUE.is("place in 0", told("place", 0), 600);
+        DUE.is("place in 3 (583.500)", told("place", 3), 583);
+        DUE.is("place in 600", told("place", 600), 50);
+        value("way", 1);
+        value("far", 700);
+        value("points", 2);
+        DUE.is("pace in 0", told("pace", 0), 0);
+        DUE.is("pace, going down", told("pace", 1), 5500);
+        DUE.is("pace in 100", told("pace", 100), 5500);
+        DUE.is("pace in 101", told("pace", 101), 0);
+    }
+
+    private static void promise11Values() {
+        value("1+2*3", 7);
+        value("(1+2)*3", 9);
+        value("10-2-3", 5);
+        value("10-(2-3)", 11);
+        value("2*3*4-1", 23);
+        value("-5+9", 4);
+        value("- -5", 5);
+        value("0-5*-2", 10);
+        value("-2*-3", 6);
+        value("1<2", 1);
+        value("2<2", 0);
+        value("2<1", 0);
+        value("-1<1", 1);
+        value("2=2", 1);
+        value("2=3", 0);
+        value("7 or 0", 1);
+        value("0 or 0", 0);
+        value("7", 7);
+        value("7 and 5", 1);
+        value("7 and 0", 0);
+        value("not 7", 0);
+        value("not 0", 1);
+        value("not not 7", 1);
+        value("not 1 = 0", 1);
+        value("(not 1) = 0", 1);
+        value("not 3 < 2", 1);
+        value("(not 3) < 2", 1);
+        value("not 0 < 1", 0);
+        value("(not 0) < 1", 0);
+        value("not 2 = 0 ", 1);
+        value("(not 2) = 5", 0);
+        value("not 2 = 5", 1);
+        value("1 or 1 and 0", 1);
+        value("(1 or 1) and 0", 0);
+        value("0 and 0 or 1", 1);
+        value("not 0 and 0", 0);
+        value("not (0 and 0)", 1);
+        value("1 + 1 < 3", 1);
+        value("2 = 1 + 1", 1);
+        // By 32 bits: 9999 * 9999 * 43 is 4299140043, which is 4172747 in an int.
+        value("9999*9999*43-417*9999", 3164);
+        value("9999*9999*9999*9999 < 0", (9999 * 9999 * 9999 * 9999) < 0 ? 1 : 0);
+    }
+
+    private static void promise11Bounds() {
+        SamePlace x = new SamePlace();
+        Due.path(x, 0, 0, 0, 0, 600, 600);
+        DUE.is("TEXT 0: near", x.asks(0, 0, 7), 500);
+        DUE.is("TEXT 0: off", x.asks(1, 0, 7), 0);
+        DUE.is("TEXT 0: worth", x.asks(2, 0, 7), 7);
+        DUE.is("TEXT 0: worth, at most", x.asks(2, 0, 100), 99);
+        Due.read(x, "near 9999+1;off 60+1;worth 99+1;");
+        x.force(1);
+        DUE.is("near at most", x.asks(0, 0, 0), 9999);
+        DUE.is("off at most", x.asks(1, 0, 0), 60);
+        DUE.is("worth at most", x.asks(2, 0, 0), 99);
+        Due.read(x, "near 9998;off -60;worth 98;");
+        x.force(2);
+        DUE.is("near within", x.asks(0, 0, 0), 9998);
+        DUE.is("off within", x.asks(1, 0, 0), -60);
+        DUE.is("worth within", x.asks(2, 0, 0), 98);
+    }
+
+    private static void promise11Refusals() {
+        SamePlace x = new SamePlace();
+        DUE.is("no WAY", x.asks(0, 0, 0), -1000);
+        x.way(0, 0);
+        DUE.is("asks(-1, 0, 0)", x.asks(-1, 0, 0), -1000);
+        DUE.is("asks(3, 0, 0)", x.asks(3, 0, 0), -1000);
+        DUE.is("asks(0, -1, 0)", x.asks(0, -1, 0), -1000);
+        DUE.is("asks(0, 1, 0)", x.asks(0, 1, 0), -1000);
+        DUE.is("asks(0, 0, -1)", x.asks(0, 0, -1), -1000);
+        DUE.is("asks(0, 0, 601)", x.asks(0, 0, 601), -1000);
+        DUE.is("asks(0, 0, 600)", x.asks(0, 0, 600), 500);
+        Due.read(x, "near -1;off -61;worth -1;");
+        x.force(1);
+        DUE.is("near at least", x.asks(0, 0, 0), 0);
+        DUE.is("off at least", x.asks(1, 0, 0), -60);
+        DUE.is("worth at least", x.asks(2, 0, 0), 0);
+    }
+
+    private TextsTest() {
+    }
+}

@@ -1,0 +1,147 @@
+/** Promises 15 to 18: meet, when, sure, apart. */
+final class TwoTest {
+    private static final Due DUE = new Due("TwoTest");
+
+    public static void main(String[] args) {
+        promise15();
+        promise15Edges();
+        promise15Refusals();
+        promise16();
+        promise17();
+        promise17Again();
+        promise18();
+        promise18Near();
+        DUE.finish();
+    }
+
+    private static SamePlace two(int[] one, int[] other) {
+        SamePlace x = new SamePlace();
+        Due.path(x, 0, 0, one);
+        Due.path(x, 0, 0, other);
+        return x;
+    }
+
+    private static void meets(String what, SamePlace x, int many, int first, int last) {
+        DUE.is(what + ": how many", x.meet(0, 1, 0), many);
+        DUE.is(what + ": the first", x.meet(0, 1, 1), first);
+        DUE.is(what + ": the last", x.meet(0, 1, 2), last);
+        DUE.is(what + ": odd", x.meet(0, 1, 3), many % 2);
+        DUE.is(what + ": the other way round", x.meet(1, 0, 0), many);
+        DUE.is(what + ": its first", x.meet(1, 0, 1), first);
+    }
+
+    private static void promise15() {
+        meets("just in a MINUTE", two(new int[] {0, 0, 600, 600}, new int[] {0, 600, 600, 0}), 1, 300, 300);
+        meets("between two", two(new int[] {0, 3}, new int[] {10, 0, 11, 10}), 1, 10, 10);
+        meets("never", two(new int[] {0, 3}, new int[] {10, 4, 11, 10}), 0, -1, -1);
+        meets("there and back", two(new int[] {0, 3}, new int[] {10, 0, 11, 10, 20, 10, 21, 0}), 2, 10, 20);
+        meets("touching", two(new int[] {0, 10}, new int[] {10, 0, 11, 10, 12, 0}), 1, 11, 11);
+        meets("for a while", two(new int[] {0, 10}, new int[] {10, 0, 11, 10, 14, 10, 15, 20}), 4, 11, 14);
+        meets("all along", two(new int[] {}, new int[] {0, 0}), 601, 0, 600);
+    }
+
+    private static void promise15Edges() {
+        meets("in MINUTE 600", two(new int[] {0, 5}, new int[] {599, 4, 600, 5}), 1, 600, 600);
+        meets("behind 599", two(new int[] {0, 5}, new int[] {599, 4, 600, 6}), 1, 599, 599);
+        meets("in MINUTE 0", two(new int[] {0, 5}, new int[] {0, 5, 1, 6}), 1, 0, 0);
+        meets("behind 0", two(new int[] {0, 5}, new int[] {0, 6, 1, 4}), 1, 0, 0);
+    }
+
+    private static void promise15Refusals() {
+        SamePlace x = two(new int[] {}, new int[] {});
+        DUE.is("meet(0, 0, 0)", x.meet(0, 0, 0), -2);
+        DUE.is("meet(0, 2, 0)", x.meet(0, 2, 0), -2);
+        DUE.is("meet(2, 0, 0)", x.meet(2, 0, 0), -2);
+        DUE.is("meet(-1, 0, 0)", x.meet(-1, 0, 0), -2);
+        DUE.is("meet(0, -1, 0)", x.meet(0, -1, 0), -2);
+        DUE.is("meet(0, 1, -1)", x.meet(0, 1, -1), -2);
+        DUE.is("meet(0, 1, 4)", x.meet(0, 1, 4), -2);
+        DUE.is("sure(0, 0)", x.sure(0, 0), -2);
+        DUE.is("sure(0, 2)", x.sure(0, 2), -2);
+        DUE.is("sure(-1, 0)", x.sure(-1, 0), -2);
+        DUE.is("apart(0, 0, 0)", x.apart(0, 0, 0), -2);
+        DUE.is("apart(0, 2, 0)", x.apart(0, 2, 0), -2);
+        DUE.is("apart(-1, 0, 0)", x.apart(-1, 0, 0), -2);
+        DUE.is("apart(0, 1, -1)", x.apart(0, 1, -1), -2);
+        DUE.is("apart(0, 1, 3)", x.apart(0, 1, 3), -2);
+        DUE.is("when(0, 0, 0)", x.when(0, 0, 0), SamePlace.NO);
+        DUE.is("when(0, 2, 0)", x.when(0, 2, 0), SamePlace.NO);
+        DUE.is("when(-1, 0, 0)", x.when(-1, 0, 0), SamePlace.NO);
+        DUE.is("when(0, 1, -1)", x.when(0, 1, -1), SamePlace.NO);
+        DUE.is("when(0, 1, 2)", x.when(0, 1, 2), SamePlace.NO);
+    }
+
+    private static void fraction(String what, SamePlace x, long above, long below) {
+        DUE.is(what + ": above", x.when(0, 1, 0), above);
+        DUE.is(what + ": below", x.when(0, 1, 1), below);
+        DUE.is(what + ": above, the other way round", x.when(1, 0, 0), above);
+        DUE.is(what + ": below, the other way round", x.when(1, 0, 1), below);
+    }
+
+    private static void promise16() {
+        fraction("in 300", two(new int[] {0, 0, 600, 600}, new int[] {0, 600, 600, 0}), 300, 1);
+        fraction("in 0", two(new int[] {}, new int[] {}), 0, 1);
+        fraction("in 600", two(new int[] {0, 5}, new int[] {599, 4, 600, 5}), 600, 1);
+        fraction("three tenths", two(new int[] {0, 3}, new int[] {0, 0, 1, 10}), 3, 10);
+        fraction("10 and three tenths", two(new int[] {0, 3}, new int[] {10, 0, 11, 10}), 103, 10);
+        fraction("10 and a half", two(new int[] {0, 5}, new int[] {10, 10, 11, 0}), 21, 2);
+        fraction("the first of two", two(new int[] {0, 3}, new int[] {10, 0, 11, 10, 20, 10, 21, 0}), 103, 10);
+        fraction("never", two(new int[] {0, 3}, new int[] {10, 4, 11, 10}), SamePlace.NO, SamePlace.NO);
+        fraction("of thousandths", two(new int[] {0, 1}, new int[] {7, 0, 10, 4}), 10331, 1333);
+    }
+
+    private static void promise17() {
+        int[] up = {0, 0, 100, 100};
+        SamePlace x = two(up, new int[] {60, 50, 61, 200});
+        DUE.is("up to 10 MINUTES later", x.sure(0, 1), 10);
+        DUE.is("the other one later", x.sure(1, 0), 120);
+        DUE.is("always", two(up, new int[] {0, 50}).sure(0, 1), 120);
+        DUE.is("never", two(up, new int[] {0, 150}).sure(0, 1), -1);
+        DUE.is("just up to 119", two(up, new int[] {169, 50, 170, 200}).sure(0, 1), 119);
+        DUE.is("just up to 120", two(up, new int[] {170, 50, 171, 200}).sure(0, 1), 120);
+        DUE.is("no later at all", two(up, new int[] {50, 50, 51, 200}).sure(0, 1), 0);
+        DUE.is("before it sets out it is where it is in 0", two(new int[] {0, 7, 1, 8},
+                new int[] {5, 0, 10, 7, 11, 0}).sure(0, 1), -1);
+        DUE.is("while it waits", two(new int[] {0, 7, 20, 8, 30, 0},
+                new int[] {5, 0, 10, 9, 11, 0}).sure(0, 1), 120);
+    }
+
+    /** It is sure by 0, not by 1, and yet again by 30. */
+    private static void promise17Again() {
+        SamePlace x = two(new int[] {0, 0, 10, 100, 20, 100, 30, 0},
+                new int[] {5, 50, 6, 200, 50, 200, 51, 50});
+        DUE.is("by each of them", x.sure(0, 1), 0);
+    }
+
+    private static void promise18() {
+        SamePlace x = two(new int[] {0, 0, 100, 100, 200, 0}, new int[] {0, 40});
+        DUE.is("at most", x.apart(0, 1, 0), 60000);
+        DUE.is("the MINUTE", x.apart(0, 1, 1), 100);
+        DUE.is("at most, the other way round", x.apart(1, 0, 0), 60000);
+        DUE.is("the MINUTE, the other way round", x.apart(1, 0, 1), 100);
+        SamePlace y = two(new int[] {0, 0, 100, 100, 200, 0}, new int[] {0, 50});
+        DUE.is("the first of like ones", y.apart(0, 1, 1), 0);
+        SamePlace z = two(new int[] {}, new int[] {});
+        DUE.is("never apart", z.apart(0, 1, 0), 0);
+        DUE.is("never apart: the MINUTE", z.apart(0, 1, 1), 0);
+        DUE.is("never apart: NEAR", z.apart(0, 1, 2), 601);
+    }
+
+    private static void promise18Near() {
+        SamePlace x = two(new int[] {0, 0, 100, 100}, new int[] {0, 40});
+        DUE.is("NEAR by 500", x.apart(0, 1, 2), 1);
+        Due.read(x, "near 2000*way+1000;off 0;worth 0;");
+        x.force(1);
+        DUE.is("NEAR by 1000: no more than it", x.apart(0, 1, 2), 3);
+        DUE.is("NEAR as told of the one", x.apart(1, 0, 2), 7);
+        Due.read(x, "near 9999*(minute<38);off 0;worth 0;");
+        x.force(2);
+        DUE.is("NEAR as told of the MINUTE", x.apart(0, 1, 2), 8);
+        Due.read(x, "near 0;off 0;worth 0;");
+        x.force(3);
+        DUE.is("NEAR by 0", x.apart(0, 1, 2), 1);
+    }
+
+    private TwoTest() {
+    }
+}
