@@ -10,6 +10,7 @@ final class RingTest {
         promise25();
         promises26And27();
         promise27Keeps();
+        promise27Gone();
         promise28();
         DUE.finish();
     }
@@ -190,6 +191,29 @@ final class RingTest {
         x.set(1, 0, 3);
         DUE.is("back() to that", x.back(), 1);
         DUE.is("its NUMBER", x.told(0, 1), 7);
+    }
+
+    /** Six WAYS are kept; one that went has no POINTS that count any more. */
+    private static void promise27Gone() {
+        SamePlace x = new SamePlace();
+        for (int i = 0; i < 5; i++) {
+            Due.path(x, 0, i, 5, i);
+        }
+        x.image();
+        Due.path(x, 0, 5, 5, 600);
+        DUE.is("a high place", x.set(0, 0, 500), -3);
+        DUE.is("six WAYS' POINTS", x.count(2), 6);
+        x.back();
+        DUE.is("POINTS of those left", x.count(2), 5);
+        DUE.is("the high place went", x.set(0, 0, 500), 600);
+        Due.path(x, 5, 6, 7, 8);
+        DUE.is("image() of six", x.image(), 6);
+        x.clear(5);
+        x.set(0, 0, 10);
+        DUE.is("back() to six", x.back(), 6);
+        DUE.is("LONG", x.count(1), 500);
+        DUE.is("the sixth one's KIND", x.told(5, 0), 5);
+        DUE.is("the sixth one's MINUTE", x.told(5, 3), 7);
     }
 
     private static void promise28() {

@@ -7,6 +7,7 @@ final class TextsTest {
         promise8();
         promise8Faults();
         promise8Depth();
+        promise8Ends();
         promise9();
         promise11Names();
         promise11Values();
@@ -82,6 +83,12 @@ final class TextsTest {
         fault("near near;", 5);
         fault("near Far;", 5);
         fault("near fAr;", 5);
+        fault("near wayz;", 5);
+        fault("near zway;", 5);
+        fault("near way{;", 8);
+        fault("near way`;", 8);
+        fault("near 1:;", 6);
+        fault("near 1/2;", 6);
         fault("near 1\t;", 6);
         fault("near 1\r;", 6);
         fault("near " + (char) 233 + ";", 5);
@@ -134,6 +141,27 @@ final class TextsTest {
         fault("near ((((((((((((((((((((((((((((((((((((((((((((((((((((((((", 10);
     }
 
+    /** A text may fill THE TAPE, and nothing of an earlier one is read behind its end. */
+    private static void promise8Ends() {
+        String plain = "near 1;off 2;worth 3;";
+        stands(plain + " ".repeat(160 - plain.length()));
+        stands(" ".repeat(160 - plain.length()) + plain);
+        fault(" ".repeat(160), 160);
+        fault(" ".repeat(151) + "near 1234", 160);
+        fault(" ".repeat(156) + "near", 160);
+        fault("n".repeat(160), 0);
+        fault("near " + "1".repeat(155), 5);
+        fault("near " + "1+".repeat(77) + "1", 160);
+        stands("near " + "1+".repeat(69) + "1;off 0;worth 0;");
+        SamePlace x = new SamePlace();
+        DUE.is("a FAULT", Due.read(x, "near 12345678901;off 0;worth 0;"), -105);
+        DUE.is("digits behind the end", Due.read(x, "near 123"), -108);
+        DUE.is("a FAULT", Due.read(x, "near offoffoff;off 0;worth 0;"), -105);
+        DUE.is("letters behind the end", Due.read(x, "near"), -104);
+        DUE.is("a FAULT", Due.read(x, "near x" + " ".repeat(90)), -105);
+        DUE.is("blanks behind the end", Due.read(x, "near  "), -106);
+    }
+
     private static void promise9() {
         SamePlace x = new SamePlace();
         x.way(0, 0);
@@ -177,9 +205,17 @@ final class TextsTest {
         value("far", 700);
         value("points", 2);
         DUE.is("pace in 0", told("pace", 0), 0);
+        DUE.is("pace of a WILD WAY in 0", wildPace(), 0);
         DUE.is("pace, going down", told("pace", 1), 5500);
         DUE.is("pace in 100", told("pace", 100), 5500);
         DUE.is("pace in 101", told("pace", 101), 0);
+    }
+
+    private static int wildPace() {
+        SamePlace x = new SamePlace();
+        Due.path(x, 5, 3, 0, 10);
+        x.force(Due.read(x, "near pace;off 0;worth 0;"));
+        return x.asks(0, 0, 0);
     }
 
     private static void promise11Values() {

@@ -121,6 +121,9 @@ final class TwoTest {
         DUE.is("the MINUTE, the other way round", x.apart(1, 0, 1), 100);
         SamePlace y = two(new int[] {0, 0, 100, 100, 200, 0}, new int[] {0, 50});
         DUE.is("the first of like ones", y.apart(0, 1, 1), 0);
+        SamePlace end = two(new int[] {599, 0, 600, 100}, new int[] {0, 40});
+        DUE.is("at most in 600", end.apart(0, 1, 0), 60000);
+        DUE.is("MINUTE 600", end.apart(0, 1, 1), 600);
         SamePlace z = two(new int[] {}, new int[] {});
         DUE.is("never apart", z.apart(0, 1, 0), 0);
         DUE.is("never apart: the MINUTE", z.apart(0, 1, 1), 0);
