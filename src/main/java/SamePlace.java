@@ -335,7 +335,8 @@ public final class SamePlace {
             return NO;
         }
         long x = Math.abs(gap(m, 0));
-        if (x == 0) {
+        // In MINUTE 600 they MEET only if D is 0, so that no MINUTE behind it is looked at.
+        if (x == 0 || m >= LAST) {
             return part == 0 ? m : 1;
         }
         long both = x + Math.abs(gap(m + 1, 0));
@@ -1079,13 +1080,13 @@ public final class SamePlace {
             next = 0;
             fault = NONE;
             out = into;
-            out.begin();
+            into.begin();
             advance();
             for (int part = 0; part < PARTS; part++) {
                 expect(NEAR + part);
                 phrase(OR_LEVEL, 0);
                 expect(SEMICOLON);
-                out.endPart(part);
+                into.endPart(part);
             }
             expect(END);
             return fault;
@@ -1107,6 +1108,12 @@ public final class SamePlace {
             token = BROKEN;
         }
 
+        private void emit(int what) {
+            if (out != null) {
+                out.put(what);
+            }
+        }
+
         /** An E, or what holds together more tightly in it, while some ( and not and - are open. */
         private void phrase(int level, int open) {
             if (level == ONE_LEVEL) {
@@ -1116,7 +1123,7 @@ public final class SamePlace {
             if (level == NOT_LEVEL && token == NOT && open < MOST_OPEN) {
                 advance();
                 phrase(NOT_LEVEL, open + 1);
-                out.put(~NOT);
+                emit(~NOT);
                 return;
             }
             phrase(level + 1, open);
@@ -1125,7 +1132,7 @@ public final class SamePlace {
                 int sign = token;
                 advance();
                 phrase(level + 1, open);
-                out.put(~sign);
+                emit(~sign);
             }
         }
 
@@ -1156,10 +1163,10 @@ public final class SamePlace {
             int what = first == NUMBER ? value : ~first;
             advance();
             if (!opens) {
-                out.put(what);
+                emit(what);
             } else if (first == MINUS) {
                 phrase(ONE_LEVEL, open + 1);
-                out.put(~NEGATE);
+                emit(~NEGATE);
             } else {
                 phrase(OR_LEVEL, open + 1);
                 expect(CLOSE);

@@ -6,12 +6,18 @@ final class HostTest {
 
     public static void main(String[] args) {
         promise29();
+        promise29Anew();
         promise30();
+        promise30Ends();
         promise31();
         promise31Refusals();
+        promise31Sorts();
         promise32();
+        promise32Sorts();
         promise32Refusals();
+        promise32Outside();
         promise33();
+        promise33Edges();
         DUE.finish();
     }
 
@@ -63,6 +69,44 @@ final class HostTest {
         DUE.is("all 0", x.beads(1), 0);
     }
 
+    /** A SHEET made anew is all 0, of whatever sort and size it was. */
+    private static void promise29Anew() {
+        for (int was = 0; was < 3; was++) {
+            for (int sort = 0; sort < 3; sort++) {
+                SamePlace x = new SamePlace();
+                Due.lay(x, 0, was, 1, 2, 3, 0, 0, 0);
+                DUE.is("from sort " + was + " to " + sort, x.sheet(0, sort, 6), 1);
+                DUE.is("all 0: else half of three would be from 2 on", x.beads(0), 0);
+                x.cell(0, 0, 1);
+                x.cell(0, 1, 1);
+                DUE.is("all the others 0", x.beads(0), 1);
+                DUE.is("it is of its sort", x.points(0, sort, 0, 0), 0);
+                DUE.is("it is of no other one", x.points(0, (sort + 1) % 3, 0, 0), -13);
+            }
+        }
+        SamePlace x = new SamePlace();
+        Due.lay(x, 0, 2, 1, 2, 3, 4);
+        x.sheet(0, -1, 4);
+        DUE.is("missing ones are told nothing", x.cell(0, 0, 5), -11);
+        x.sheet(0, 2, 2);
+        DUE.is("smaller than it was", x.cell(0, 2, 5), -12);
+        x.sheet(0, 2, 4);
+        DUE.is("larger again: 0 behind, too", x.beads(0), 0);
+        DUE.is("W is 0", x.heat(0), 0);
+        DUE.is("sheet(0, least, 1)", x.sheet(0, LEAST, 1), -2);
+        DUE.is("sheet(0, most, 1)", x.sheet(0, MOST, 1), -2);
+        DUE.is("sheet(least, 0, 1)", x.sheet(LEAST, 0, 1), -2);
+        DUE.is("sheet(most, 0, 1)", x.sheet(MOST, 0, 1), -2);
+        DUE.is("missing, n least", x.sheet(1, -1, LEAST), 1);
+        DUE.is("missing, n most", x.sheet(1, -1, MOST), 1);
+        for (int sort = 0; sort < 3; sort++) {
+            DUE.is("40 of sort " + sort, x.sheet(1, sort, 40), 1);
+            DUE.is("41 of sort " + sort, x.sheet(1, sort, 41), -2);
+            DUE.is("-1 of sort " + sort, x.sheet(1, sort, -1), -14);
+            DUE.is("0 of sort " + sort, x.sheet(1, sort, 0), 1);
+        }
+    }
+
     private static void promise30() {
         SamePlace x = new SamePlace();
         DUE.is("cell(-1, 0, 0)", x.cell(-1, 0, 0), -2);
@@ -86,6 +130,30 @@ final class HostTest {
         kept(0, 128, -128);
         kept(0, 256 + 5, 5);
         kept(0, -257, -1);
+    }
+
+    private static void promise30Ends() {
+        SamePlace x = new SamePlace();
+        for (int sheet = 0; sheet < 4; sheet++) {
+            x.sheet(sheet, sheet % 3, 40);
+            DUE.is("item 0 of SHEET " + sheet, x.cell(sheet, 0, 1), 1);
+            DUE.is("item 39 of SHEET " + sheet, x.cell(sheet, 39, 1), 1);
+            DUE.is("item 40 of SHEET " + sheet, x.cell(sheet, 40, 1), -12);
+            DUE.is("item -1 of SHEET " + sheet, x.cell(sheet, -1, 1), -12);
+        }
+        DUE.is("cell(most, 0, 0)", x.cell(MOST, 0, 0), -2);
+        DUE.is("cell(least, 0, 0)", x.cell(LEAST, 0, 0), -2);
+        kept(0, -128, -128);
+        kept(0, -129, 127);
+        kept(0, 255, -1);
+        kept(0, LEAST, 0);
+        kept(0, MOST, -1);
+        kept(1, -32768, -32768);
+        kept(1, -32769, 32767);
+        kept(1, 65535, -1);
+        kept(1, LEAST, 0);
+        kept(1, MOST, -1);
+        kept(2, 65536, 65536);
     }
 
     private static void kept(int sort, int v, int due) {
@@ -145,6 +213,39 @@ final class HostTest {
         DUE.is("none, behind the other one's end", x.copy(0, 0, 2, 3, 0), -12);
     }
 
+    /** Of each sort numbers come as they were, onto the same SHEET and onto another one. */
+    private static void promise31Sorts() {
+        for (int sort = 0; sort < 3; sort++) {
+            SamePlace x = new SamePlace();
+            x.way(0, 0);
+            x.sheet(0, sort, 40);
+            x.sheet(1, sort, 40);
+            x.cell(0, 0, 100);
+            x.cell(0, 39, 100);
+            DUE.is("all forty of sort " + sort, x.copy(0, 0, 1, 0, 40), 40);
+            DUE.is("41", x.copy(0, 0, 1, 0, 41), -12);
+            DUE.is("39 from 1 on", x.copy(0, 1, 1, 0, 39), 39);
+            DUE.is("40 from 1 on", x.copy(0, 1, 1, 0, 40), -12);
+            DUE.is("39 to 1 on", x.copy(0, 0, 1, 1, 39), 39);
+            DUE.is("40 to 1 on", x.copy(0, 0, 1, 1, 40), -12);
+            DUE.is("the last to the last", x.copy(0, 39, 1, 39, 1), 1);
+            DUE.is("none behind the last", x.copy(0, 40, 1, 40, 0), 0);
+            DUE.is("none farther behind", x.copy(0, 41, 1, 0, 0), -12);
+            DUE.is("none ahead of the first", x.copy(0, -1, 1, 0, 0), -12);
+            DUE.is("none ahead of the other one's first", x.copy(0, 0, 1, -1, 0), -12);
+            DUE.is("onto itself, where it is", x.copy(0, 0, 0, 0, 40), 40);
+            x.sheet(2, sort, 0);
+            DUE.is("none of no items", x.copy(2, 0, 2, 0, 0), 0);
+            DUE.is("one of no items", x.copy(2, 0, 2, 0, 1), -12);
+            DUE.is("one to no items", x.copy(0, 0, 2, 0, 1), -12);
+            x.sheet(3, (sort + 1) % 3, 40);
+            DUE.is("to another sort", x.copy(0, 0, 3, 0, 1), -13);
+            DUE.is("from another sort", x.copy(3, 0, 0, 0, 1), -13);
+            x.sheet(3, -1, 0);
+            DUE.is("both missing", x.copy(3, 0, 3, 0, 0), -11);
+        }
+    }
+
     private static void promise32() {
         SamePlace x = new SamePlace();
         x.way(0, 0);
@@ -166,6 +267,29 @@ final class HostTest {
         }
         DUE.is("13 of them, of which 8 have room", y.points(0, 1, 0, 13), 8);
         DUE.is("8 POINTS", y.count(2), 8);
+    }
+
+    /** Of bytes and of shorts as of ints; numbers below 0 are none such, so that their rows are left out. */
+    private static void promise32Sorts() {
+        for (int sort = 0; sort < 3; sort++) {
+            SamePlace x = new SamePlace();
+            x.way(0, 0);
+            x.way(0, 0);
+            Due.lay(x, 0, sort, 1, 100, 50, -1, 101, 50, 1, -1, 50, 1, 101, -1, 2, 101, 50, 1, 100, 50, 1, 102, 60);
+            DUE.is("seven rows of sort " + sort, x.points(0, sort, 0, 7), 2);
+            DUE.is("POINTS of WAY 1", x.told(1, 2), 2);
+            DUE.is("its last MINUTE", x.told(1, 5), 102);
+            DUE.is("its last place", x.told(1, 6), 60);
+            DUE.is("one row", x.points(0, sort, 3, 1), 0);
+            DUE.is("a row from amid the others", x.points(0, sort, 11, 1), 0);
+        }
+        SamePlace x = new SamePlace();
+        x.way(0, 0);
+        Due.lay(x, 0, 0, 0, 200, 1, 0, 5, 200);
+        DUE.is("200 is below 0 as a byte", x.points(0, 0, 0, 2), 0);
+        Due.lay(x, 0, 1, 0, 600, 600, 0, 5, 600);
+        DUE.is("600 is 600 as a short", x.points(0, 1, 0, 2), 1);
+        DUE.is("its MINUTE", x.told(0, 3), 600);
     }
 
     private static void promise32Refusals() {
@@ -196,6 +320,44 @@ final class HostTest {
         DUE.is("its last place", x.told(0, 6), 2);
     }
 
+    /** A row of which any item is outside is -12; what stood ahead came, and what is behind it doesn't. */
+    private static void promise32Outside() {
+        for (int size = 0; size < 9; size++) {
+            SamePlace x = new SamePlace();
+            x.way(0, 0);
+            x.sheet(0, 2, size);
+            for (int row = 0; 3 * row + 1 < size; row++) {
+                x.cell(0, 3 * row + 1, row);
+            }
+            DUE.is(size + " numbers: three rows", x.points(0, 2, 0, 3), -12);
+            DUE.is(size + " numbers: those that are whole", x.count(2), size / 3);
+            DUE.is(size + " numbers: as many as are whole", x.points(0, 2, 0, size / 3), 0);
+        }
+        SamePlace x = new SamePlace();
+        x.way(0, 0);
+        x.sheet(0, 2, 40);
+        DUE.is("13 of them to the end", x.points(0, 2, 1, 13), 1);
+        DUE.is("13 of them, one beyond", x.points(0, 2, 2, 13), -12);
+        DUE.is("one beyond the end", x.points(0, 2, 38, 1), -12);
+        DUE.is("the last", x.points(0, 2, 37, 1), 0);
+        DUE.is("from -1, where only one item is outside", x.points(0, 2, -1, 1), -12);
+        DUE.is("from -3: the second would be inside", x.points(0, 2, -3, 2), -12);
+        DUE.is("from 40", x.points(0, 2, 40, 1), -12);
+        DUE.is("n most", x.points(0, 2, 0, MOST), -2);
+        DUE.is("n least", x.points(0, 2, 0, LEAST), -2);
+        DUE.is("sort most", x.points(0, MOST, 0, 1), -2);
+        DUE.is("sort least", x.points(0, LEAST, 0, 1), -2);
+        DUE.is("SHEET most", x.points(MOST, 2, 0, 1), -2);
+        DUE.is("SHEET least", x.points(LEAST, 2, 0, 1), -2);
+        DUE.is("no WAYS: all are left out", noWays(), 0);
+    }
+
+    private static int noWays() {
+        SamePlace x = new SamePlace();
+        x.sheet(0, 2, 39);
+        return x.points(0, 2, 0, 13);
+    }
+
     private static void promise33() {
         SamePlace x = new SamePlace();
         for (int kind = 0; kind < 6; kind++) {
@@ -214,6 +376,22 @@ final class HostTest {
         DUE.is("taken(6, 0)", x.taken(6, 0), -11);
         DUE.is("BAD ahead of no WAY", x.taken(6, 6), -2);
         DUE.is("no WAY ahead of its KIND", new SamePlace().taken(0, 5), -11);
+    }
+
+    private static void promise33Edges() {
+        SamePlace x = new SamePlace();
+        DUE.is("no WAYS: BAD ahead", x.taken(0, 6), -2);
+        DUE.is("no WAYS", x.taken(0, 0), -11);
+        x.way(3, 0);
+        DUE.is("NUMBER 0 is an answer", x.taken(0, 0), 0);
+        DUE.is("NUMBER 0, by one between", x.taken(0, 1), 0);
+        DUE.is("of another KIND", x.taken(0, 2), -13);
+        x.set(1, 0, 9);
+        DUE.is("its NUMBER of now", x.taken(0, 3), 9);
+        DUE.is("taken(0, most)", x.taken(0, MOST), -2);
+        DUE.is("taken(0, least)", x.taken(0, LEAST), -2);
+        DUE.is("taken(most, 0)", x.taken(MOST, 0), -11);
+        DUE.is("taken(least, 0)", x.taken(LEAST, 0), -11);
     }
 
     private HostTest() {

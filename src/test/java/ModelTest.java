@@ -35,7 +35,8 @@ final class ModelTest {
         for (int i = 0; i < start; i++) {
             grow();
         }
-        while (calls < CALLS) {
+        // A turn makes less than 40 calls, but for write, which looks itself at how many are left.
+        while (calls < CALLS - 40) {
             int what = pick(100);
             if (what < 22) {
                 grow();
@@ -235,7 +236,7 @@ final class ModelTest {
 
     private void write() {
         String s = text();
-        if (s.length() > CALLS - calls) {
+        if (s.length() > CALLS - 40 - calls) {
             return;
         }
         for (int i = 0; i < s.length(); i++) {

@@ -4,12 +4,16 @@ final class NotesTest {
 
     public static void main(String[] args) {
         promise19();
+        promise19Rows();
         promise19Off();
         promise19Refusals();
         promise20();
+        promise20Rows();
         promise20Refusals();
         promise21();
         promise21Least();
+        promise21Ends();
+        promise21Pairs();
         DUE.finish();
     }
 
@@ -47,6 +51,29 @@ final class NotesTest {
         DUE.is("of shorts", x.fits(1), 2);
         SamePlace none = new SamePlace();
         DUE.is("no WAYS", fitting(none, 5, 5, 5), 0);
+    }
+
+    private static void promise19Rows() {
+        SamePlace x = three();
+        DUE.is("the second row alone tells", fitting(x, 0, 0, 0, 300, 200, 0), 2);
+        DUE.is("the third row alone tells", fitting(x, 0, 0, 0, 0, 0, 0, 600, 600, 0), 4);
+        DUE.is("the first row alone tells", fitting(x, 600, 200, 0, 0, 0, 0, 0, 0, 0), 1);
+        DUE.is("rows that rule out one another", fitting(x, 600, 200, 0, 600, 400, 0), 0);
+        DUE.is("13 rows, the last of which tells", fitting(x, 0, 0, 0, 0, 0, 0, 0, 0, 0, 0, 0, 0, 0, 0, 0, 0, 0, 0,
+                0, 0, 0, 0, 0, 0, 0, 0, 0, 0, 0, 0, 0, 0, 0, 0, 0, 0, 600, 400, 0), 2);
+        DUE.is("40 numbers", fitting(x, new int[40]), -2);
+        DUE.is("39 numbers", fitting(x, new int[39]), 7);
+        DUE.is("farther by a thousandth, above", fitting(x, 1, 0, 332), 0);
+        DUE.is("just as far, above", fitting(x, 1, 0, 333), 1);
+        DUE.is("farther by a thousandth, below", fitting(x, 1, 1, 666), 6);
+        DUE.is("just as far, below", fitting(x, 1, 1, 667), 7);
+        DUE.is("a place far below", fitting(x, 0, Integer.MIN_VALUE, Integer.MAX_VALUE), 0);
+        DUE.is("within the least", fitting(x, 0, 0, Integer.MIN_VALUE), 0);
+        SamePlace six = new SamePlace();
+        for (int i = 0; i < 6; i++) {
+            Due.path(six, 0, 0, 0, i % 2);
+        }
+        DUE.is("the last of six, too", fitting(six, 600, 1, 0), 2 + 8 + 32);
     }
 
     private static void promise19Off() {
@@ -117,6 +144,29 @@ final class NotesTest {
         DUE.is("that below 0", y.wrong(0, 0, 1), -7);
     }
 
+    private static void promise20Rows() {
+        SamePlace x = three();
+        Due.lay(x, 0, 2, 300, 300, 9000, 300, 310, 2000);
+        DUE.is("rows leave 8 and 9", x.wrong(0, 2, 0), 2);
+        DUE.is("the nearest by both rows", x.wrong(0, 2, 1), 8);
+        Due.lay(x, 0, 2, 0, 0, 60000, 300, 300, 60000, 300, 250, 0);
+        DUE.is("the third row tells", x.wrong(0, 2, 0), 1);
+        DUE.is("the nearest by the third", x.wrong(0, 2, 1), -50);
+        Due.lay(x, 0, 2, 300, 300, 0, 300, 301, 0);
+        DUE.is("rows that rule out one another", x.wrong(0, 2, 0), 0);
+        DUE.is("rows that rule out one another: 99", x.wrong(0, 2, 1), 99);
+        Due.lay(x, 0, 2, 300, 300, 60000);
+        DUE.is("just all clocks", x.wrong(0, 2, 0), 121);
+        Due.lay(x, 0, 2, 300, 300, 59999);
+        DUE.is("all but those at both ends", x.wrong(0, 2, 0), 119);
+        Due.lay(x, 0, 2, 0, Integer.MAX_VALUE, Integer.MAX_VALUE);
+        DUE.is("a place far off", x.wrong(0, 2, 0), 0);
+        Due.lay(x, 0, 2, 600, 600, 0);
+        DUE.is("600 at most, in 600", x.wrong(0, 2, 0), 61);
+        Due.lay(x, 0, 2, 0, 0, 0);
+        DUE.is("0 at least, in 0", x.wrong(0, 2, 0), 61);
+    }
+
     private static void promise20Refusals() {
         SamePlace x = three();
         Due.lay(x, 0, 2, 0, 0, 0);
@@ -177,6 +227,60 @@ final class NotesTest {
         Due.path(y, 0, 0, 0, 0, 119, 0, 120, 2);
         Due.path(y, 0, 0, 0, 1, 1, 0, 60, 1, 61, 0);
         signposts("one late that tells all ahead of two early", y, 4);
+    }
+
+    private static void promise21Ends() {
+        SamePlace x = new SamePlace();
+        x.way(0, 0);
+        Due.path(x, 0, 0, 0, 1, 1, 0);
+        signposts("unlike in 0 alone", x, 1);
+        x.clear(1);
+        x.point(1, 1, 0);
+        x.point(1, 2, 5);
+        x.point(1, 59, 5);
+        x.point(1, 60, 0);
+        signposts("unlike between 0 and 60 alone", x, -1);
+        // A LATE one by 90 comes to 510 alone in MINUTE 600: what it would do in 660 counts nowhere.
+        SamePlace y = new SamePlace();
+        y.way(0, 0);
+        Due.path(y, 1, 9, 510, 0, 511, 5);
+        signposts("unlike behind 600 alone", y, -1);
+        y.set(1, 1, 8);
+        signposts("unlike in 600, less late", y, 1 << 10);
+        SamePlace z = new SamePlace();
+        z.way(0, 0);
+        Due.path(z, 0, 0, 59, 0, 60, 1, 118, 1, 119, 0, 539, 0, 540, 1, 541, 0);
+        signposts("unlike in 60 and in 540: the least", z, 2);
+        z.clear(1);
+        z.point(1, 0, 0);
+        z.point(1, 600, 1);
+        // In MINUTE 60 it is 100 thousandths on already.
+        signposts("unlike by thousandths", z, 2);
+    }
+
+    /** Each pair of six counts: two that are alike are enough that none tells all. */
+    private static void promise21Pairs() {
+        for (int one = 0; one < 6; one++) {
+            for (int other = 0; other < one; other++) {
+                SamePlace x = new SamePlace();
+                for (int i = 0; i < 6; i++) {
+                    Due.path(x, 0, 0, 0, i == other ? one : i);
+                }
+                signposts("alike " + other + " and " + one, x, -1);
+            }
+        }
+        SamePlace x = new SamePlace();
+        for (int i = 0; i < 6; i++) {
+            Due.path(x, 0, 0, 0, i);
+        }
+        signposts("six unlike ones", x, 1);
+        SamePlace y = new SamePlace();
+        for (int i = 0; i < 5; i++) {
+            Due.path(y, 0, 0, 120 * i + 119, 0, 120 * i + 120, 9, 120 * i + 121, 0);
+        }
+        y.way(0, 0);
+        // Each is apart from the last one in its own MINUTE alone: as many signposts as six WAYS can need.
+        signposts("five of them", y, (1 << 2) + (1 << 4) + (1 << 6) + (1 << 8) + (1 << 10));
     }
 
     private NotesTest() {

@@ -8,8 +8,11 @@ final class OneWayTest {
         promise10Bounds();
         promise10Refusals();
         promise12();
+        promise12Edges();
         promise13();
+        promise13Far();
         promise14Half();
+        promise14Again();
         promise14Best();
         DUE.finish();
     }
@@ -122,6 +125,46 @@ final class OneWayTest {
         DUE.is("WILD, a part", x.length(1, 3, 10), 7000);
     }
 
+    private static void promise12Edges() {
+        SamePlace x = new SamePlace();
+        DUE.is("no WAY", x.length(0, 0, 0), -2);
+        Due.path(x, 0, 0, 0, 0, 1, 5, 599, 5, 600, 12);
+        DUE.is("the first MINUTE's", x.length(0, 0, 1), 5000);
+        DUE.is("the last MINUTE's", x.length(0, 599, 600), 7000);
+        DUE.is("from 600 to it", x.length(0, 600, 600), 0);
+        DUE.is("from 0 to it", x.length(0, 0, 0), 0);
+        DUE.is("length(0, -1, -1)", x.length(0, -1, -1), -2);
+        DUE.is("length(0, 600, 601)", x.length(0, 600, 601), -2);
+        DUE.is("length(0, 600, 599)", x.length(0, 600, 599), -2);
+        DUE.is("length(0, 0, -1)", x.length(0, 0, -1), -2);
+        DUE.is("length(0, most, most)", x.length(0, Integer.MAX_VALUE, Integer.MAX_VALUE), -2);
+        DUE.is("length(0, least, 0)", x.length(0, Integer.MIN_VALUE, 0), -2);
+        DUE.is("length(most, 0, 0)", x.length(Integer.MAX_VALUE, 0, 0), -2);
+        SamePlace far = new SamePlace();
+        far.set(0, 0, 999);
+        zigzag(far);
+        DUE.is("as far as a WAY goes", far.length(0, 0, 600), 7 * 999000);
+    }
+
+    /** From end to end in each of its first MINUTES, and then no more. */
+    private static void zigzag(SamePlace x) {
+        Due.path(x, 0, 0, 0, 0, 1, 999, 2, 0, 3, 999, 4, 0, 5, 999, 6, 0, 7, 999);
+    }
+
+    /** E is no int any more: 600 times LENGTH is up to 4,195,800,000, and t times LENGTH beyond 2,147,483,647. */
+    private static void promise13Far() {
+        SamePlace x = new SamePlace();
+        x.set(0, 0, 999);
+        zigzag(x);
+        DUE.is("as long as half of all: four of seven, then three", x.mean(0, 300), 3);
+        DUE.is("a third of all: three of seven, then two", x.mean(0, 200), 4);
+        DUE.is("all of it ahead of a long rest", x.mean(0, 1), 6);
+        // Its turns go between 999 and 1, then 593 MINUTES between 0 and 1: 7579 places, of which 300 MINUTES' share is 3789.5.
+        Due.path(x, 5, 0, 0, 999, 1, 0, 2, 999, 3, 0, 4, 999, 5, 0, 6, 999, 7, 0);
+        DUE.is("LENGTH of a WILD one", x.length(1, 0, 600), 7 * 998000 + 593000);
+        DUE.is("its half", x.mean(1, 300), 3);
+    }
+
     private static void promise13() {
         SamePlace x = new SamePlace();
         Due.path(x, 0, 0, 0, 0, 600, 600);
@@ -174,6 +217,21 @@ final class OneWayTest {
         DUE.is("half(0, 3)", x.half(0, 3), -2);
     }
 
+    /** What was asked ahead, of another WAY or of two, leaves nothing behind. */
+    private static void promise14Again() {
+        SamePlace x = new SamePlace();
+        Due.path(x, 0, 0, 0, 0, 600, 600);
+        Due.path(x, 0, 0, 0, 600, 600, 300);
+        DUE.is("they MEET", x.meet(1, 0, 1), 400);
+        DUE.is("half behind meet", x.half(0, 0), 300);
+        DUE.is("apart", x.apart(1, 0, 0), 600000);
+        DUE.is("length behind apart", x.length(0, 0, 600), 600000);
+        DUE.is("drawn", x.drawn(0, 1, 1), -1);
+        DUE.is("half behind drawn", x.half(0, 0), 300);
+        DUE.is("mean behind half", x.mean(1, 300), 0);
+        DUE.is("meet behind mean", x.meet(1, 0, 1), 400);
+    }
+
     private static void promise14Best() {
         SamePlace x = new SamePlace();
         Due.path(x, 0, 0, 0, 0, 600, 60);
@@ -193,8 +251,28 @@ final class OneWayTest {
         DUE.is("worth 0", x.half(0, 2), 0);
         Due.read(x, "near 0;off 0;worth minute;");
         x.force(4);
+        DUE.is("half(0, 2) of no WAY", x.half(1, 2), -2);
+        DUE.is("half(0, 1) of no WAY", x.half(-1, 1), -2);
         DUE.is("at the bound", x.half(0, 1), 99);
         DUE.is("worth at the bound", x.half(0, 2), 99);
+        Due.read(x, "near 0;off 0;worth 5+3*(minute=1);");
+        x.force(5);
+        DUE.is("BEST in 1", x.half(0, 1), 1);
+        DUE.is("worth in 1", x.half(0, 2), 8);
+        bestAtTheEnds();
+    }
+
+    private static void bestAtTheEnds() {
+        SamePlace x = new SamePlace();
+        x.way(0, 0);
+        Due.read(x, "near 0;off 0;worth 600<minute+1;");
+        x.force(1);
+        DUE.is("BEST in 600", x.half(0, 1), 600);
+        DUE.is("worth in 600", x.half(0, 2), 1);
+        Due.read(x, "near 0;off 0;worth minute<1;");
+        x.force(2);
+        DUE.is("BEST in 0", x.half(0, 1), 0);
+        DUE.is("worth in 0", x.half(0, 2), 1);
     }
 
     private OneWayTest() {

@@ -8,8 +8,10 @@ final class PathTest {
         promise2Number();
         promise3();
         promise4();
+        promise4Edges();
         promise5();
         promise6();
+        promise6Edges();
         DUE.finish();
     }
 
@@ -55,6 +57,23 @@ final class PathTest {
         DUE.is("its place", x.set(0, 0, 700), 800);
         x.clear(0);
         DUE.is("no POINTS", x.set(0, 0, 10), 700);
+        DUE.is("as it is", x.set(0, 0, 10), 10);
+        x.set(0, 0, 999);
+        for (int i = 0; i < 8; i++) {
+            x.point(0, i, i);
+        }
+        x.clear(1);
+        x.point(1, 0, 998);
+        x.point(1, 1, 11);
+        DUE.is("a POINT that is not the last counts", x.set(0, 0, 997), -3);
+        DUE.is("no place is above it", x.set(0, 0, 998), 999);
+        for (int i = 2; i < 6; i++) {
+            x.way(0, 0);
+        }
+        x.clear(1);
+        x.point(5, 600, 500);
+        DUE.is("a POINT of the last WAY counts", x.set(0, 0, 499), -3);
+        DUE.is("its place, just", x.set(0, 0, 500), 998);
     }
 
     private static void promise2Number() {
@@ -125,6 +144,33 @@ final class PathTest {
         DUE.is("a place up to LONG", x.point(2, 1, 999), 1);
     }
 
+    private static void promise4Edges() {
+        SamePlace x = new SamePlace();
+        x.way(0, 0);
+        DUE.is("WAY least", x.point(Integer.MIN_VALUE, 0, 0), -2);
+        DUE.is("WAY most", x.point(Integer.MAX_VALUE, 0, 0), -2);
+        DUE.is("MINUTE least", x.point(0, Integer.MIN_VALUE, 0), -2);
+        DUE.is("MINUTE most", x.point(0, Integer.MAX_VALUE, 0), -2);
+        DUE.is("place least", x.point(0, 0, Integer.MIN_VALUE), -2);
+        DUE.is("place most", x.point(0, 0, Integer.MAX_VALUE), -2);
+        DUE.is("none came", x.told(0, 2), 0);
+        DUE.is("the first in 600", x.point(0, 600, 0), 1);
+        DUE.is("none is later than 600", x.point(0, 600, 1), -2);
+        x.clear(0);
+        DUE.is("cleared, it may begin in 0", x.point(0, 0, 600), 1);
+        x.set(0, 0, 601);
+        DUE.is("a place by the LONG of now", x.point(0, 1, 601), 2);
+        DUE.is("one beyond it", x.point(0, 2, 602), -2);
+        DUE.is("the same place again", x.point(0, 2, 601), 3);
+        x.clear(0);
+        for (int i = 0; i < 8; i++) {
+            x.point(0, 75 * i, 0);
+        }
+        DUE.is("FULL, though later", x.point(0, 600, 0), -4);
+        DUE.is("cleared, there is room again", x.clear(0), 8);
+        DUE.is("the first again", x.point(0, 0, 0), 1);
+    }
+
     private static void promise5() {
         SamePlace x = new SamePlace();
         DUE.is("clear(0): no WAY", x.clear(0), -2);
@@ -156,6 +202,27 @@ final class PathTest {
         x.clear(0);
         DUE.is("told(0, 3), cleared", x.told(0, 3), -2);
         DUE.is("told(0, 2), cleared", x.told(0, 2), 0);
+    }
+
+    private static void promise6Edges() {
+        SamePlace x = new SamePlace();
+        x.way(5, 9);
+        for (int i = 0; i < 8; i++) {
+            DUE.is("told(0, " + (3 + 2 * i) + ") ahead of the POINT", x.told(0, 3 + 2 * i), -2);
+            DUE.is("told(0, " + (4 + 2 * i) + ") ahead of the POINT", x.told(0, 4 + 2 * i), -2);
+            x.point(0, 10 * i, 100 + i);
+            DUE.is("the MINUTE of POINT " + i, x.told(0, 3 + 2 * i), 10 * i);
+            DUE.is("the place of POINT " + i, x.told(0, 4 + 2 * i), 100 + i);
+        }
+        DUE.is("told(0, 19): eight POINTS", x.told(0, 19), -2);
+        DUE.is("told(0, 20)", x.told(0, 20), -2);
+        DUE.is("told(0, most less 1)", x.told(0, Integer.MAX_VALUE - 1), -2);
+        DUE.is("told(most, 0)", x.told(Integer.MAX_VALUE, 0), -2);
+        DUE.is("told(least, 0)", x.told(Integer.MIN_VALUE, 0), -2);
+        x.clear(0);
+        x.point(0, 7, 8);
+        DUE.is("an earlier POINT is told no more", x.told(0, 5), -2);
+        DUE.is("the new one is", x.told(0, 3), 7);
     }
 
     private PathTest() {

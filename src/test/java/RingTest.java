@@ -4,10 +4,14 @@ final class RingTest {
 
     public static void main(String[] args) {
         promise22();
+        promise22Edges();
         promise23();
+        promise23Edges();
         promise24();
+        promise24Told();
         promise24Refusals();
         promise25();
+        promise25Refusals();
         promises26And27();
         promise27Keeps();
         promise27Gone();
@@ -48,6 +52,24 @@ final class RingTest {
         DUE.is("one whose half has none, far on", beads(1, 1, 1, 0, 0, 0, 0, 0), 2);
     }
 
+    private static void promise22Edges() {
+        DUE.is("two, one of them", beads(0, 1), 0);
+        DUE.is("two, both", beads(1, 1), 0);
+        DUE.is("one number", beads(1), -2);
+        int[] forty = new int[40];
+        forty[20] = 3;
+        DUE.is("one of forty, in the second half: half of one, cut, is 0", beads(forty), 0);
+        forty[0] = -3;
+        DUE.is("two of forty, across", beads(forty), 0);
+        forty[20] = 0;
+        forty[19] = 5;
+        DUE.is("two of forty, in the first half", beads(forty), 1);
+        DUE.is("39 numbers", beads(new int[39]), -2);
+        DUE.is("least and most aren't 0", beads(Integer.MIN_VALUE, Integer.MAX_VALUE, 0, 0), 1);
+        DUE.is("half of three, cut, at once", beads(1, 0, 0, 1, 1, 0), 0);
+        DUE.is("half of five, cut", beads(1, 1, 1, 1, 1, 0), 3);
+    }
+
     private static void promise23() {
         SamePlace x = new SamePlace();
         DUE.is("heat(-1)", x.heat(-1), -2);
@@ -63,6 +85,32 @@ final class RingTest {
         DUE.is("as a long", heat(2147483647, 2147483647, -2147483648, 2147483647), 1);
         DUE.is("as a long, W above 0 in 0", heat(2147483647, 5, -2, -2147483648, -1, 2), 1);
         DUE.is("alike in the last of the half", heat(3, 3, 7, 1, 1, 7), 2);
+    }
+
+    private static void promise23Edges() {
+        DUE.is("one number", heat(1), -2);
+        DUE.is("39 numbers", heat(new int[39]), -2);
+        DUE.is("forty alike", heat(new int[40]), 0);
+        int[] forty = new int[40];
+        for (int i = 0; i < 20; i++) {
+            forty[i] = 1;
+        }
+        DUE.is("above in all of the first half: round to below", heat(forty), 19);
+        forty[39] = 1;
+        DUE.is("alike in 19", heat(forty), 19);
+        forty[19] = -1;
+        DUE.is("above in 18, below in 19", heat(forty), 18);
+        DUE.is("two, far from one another", heat(Integer.MIN_VALUE, Integer.MAX_VALUE), 0);
+        DUE.is("by 1 above, by 1 below", heat(5, 5, 4, 6), 0);
+        // W in 0 is 2 to the 32nd less 1, which is -1 in an int; in 1 it is 1.
+        DUE.is("above, above, as a long", heat(2147483647, 1, 5, -2147483648, 0, 4), 2);
+        SamePlace x = new SamePlace();
+        Due.lay(x, 0, 0, 128, 0, 127, 0);
+        DUE.is("bytes have signs: -128 and 127", x.heat(0), 1);
+        Due.lay(x, 0, 0, 256, 9, 512, 1);
+        DUE.is("bytes alike by their lowest 8 bits", x.heat(0), 0);
+        Due.lay(x, 0, 1, 32768, 2, 1, 0, 1, 0);
+        DUE.is("shorts have signs: below, then above", x.heat(0), 0);
     }
 
     private static void promise24() {
@@ -95,6 +143,32 @@ final class RingTest {
         DUE.is("a TURNED WAY is the one as it is AT", k.drawn(0, 1, 0), 576);
     }
 
+    /** A WAY DRAWN is met as one that has been told the same POINTS. */
+    private static void promise24Told() {
+        int[] seeds = {0, 1, -1, 77, Integer.MAX_VALUE, Integer.MIN_VALUE, 123456789};
+        int[] longs = {10, 600, 999};
+        for (int seed : seeds) {
+            for (int n = 1; n <= 8; n++) {
+                for (int far : longs) {
+                    SamePlace x = new SamePlace();
+                    x.set(0, 0, far);
+                    Due.path(x, 0, 0, 0, 0, 600, far);
+                    Due.path(x, 4, 9, 0, far, 300, 0, 600, far);
+                    int z = seed;
+                    x.way(0, 0);
+                    for (int i = 0; i < n; i++) {
+                        z = z * 1103515245 + 12345;
+                        x.point(2, 600 * i / n, (z >>> 9) % (far + 1));
+                    }
+                    String what = "drawn(" + seed + ", " + n + ", ..) by LONG " + far;
+                    DUE.is(what + ": POINTS told", x.told(2, 2), n);
+                    DUE.is(what, x.drawn(seed, n, 0), x.meet(0, 2, 1));
+                    DUE.is(what + ", HALTING", x.drawn(seed, n, 1), x.meet(1, 2, 1));
+                }
+            }
+        }
+    }
+
     private static void promise24Refusals() {
         SamePlace x = new SamePlace();
         DUE.is("no WAY", x.drawn(0, 1, 0), -2);
@@ -107,11 +181,10 @@ final class RingTest {
     }
 
     private static void promise25() {
-        SamePlace x = new SamePlace();
-        DUE.is("no WAY", x.chance(0, 1, 0, 0), SamePlace.NO);
-        Due.path(x, 0, 0, 0, 300, 600, 310);
-        int[] seeds = {0, -7, Integer.MAX_VALUE - 3, Integer.MIN_VALUE, 1 << 20};
+        int[] seeds = {0, -7, -1, Integer.MAX_VALUE, Integer.MAX_VALUE - 3, Integer.MIN_VALUE, 1 << 20};
         for (int seed : seeds) {
+            SamePlace x = new SamePlace();
+            Due.path(x, 0, 0, 0, 300, 600, 310);
             for (int n = 1; n <= 20; n++) {
                 int many = 0;
                 for (int i = 0; i < n; i++) {
@@ -123,12 +196,21 @@ final class RingTest {
                 DUE.is("chance(" + seed + ", " + n + ") in lowest terms", common(above, below), 1);
             }
         }
-        x.clear(0);
-        // A path's end where the drawn ones are not: none of them MEET.
+    }
+
+    private static void promise25Refusals() {
+        SamePlace x = new SamePlace();
+        DUE.is("no WAY", x.chance(0, 1, 0, 0), SamePlace.NO);
+        x.way(0, 0);
+        // It stays at the path's end, where the drawn ones are not: none of them MEET.
         DUE.is("none of 3: above", x.chance(0, 3, 0, 0), 0);
         DUE.is("none of 3: below", x.chance(0, 3, 0, 1), 1);
+        DUE.is("none of 20: below", x.chance(0, 20, 0, 1), 1);
         DUE.is("chance(0, 0, 0, 0)", x.chance(0, 0, 0, 0), SamePlace.NO);
+        DUE.is("chance(0, -1, 0, 0)", x.chance(0, -1, 0, 0), SamePlace.NO);
         DUE.is("chance(0, 21, 0, 0)", x.chance(0, 21, 0, 0), SamePlace.NO);
+        DUE.is("chance(0, most, 0, 0)", x.chance(0, Integer.MAX_VALUE, 0, 0), SamePlace.NO);
+        DUE.is("chance(0, least, 0, 0)", x.chance(0, Integer.MIN_VALUE, 0, 0), SamePlace.NO);
         DUE.is("chance(0, 1, 1, 0)", x.chance(0, 1, 1, 0), SamePlace.NO);
         DUE.is("chance(0, 1, -1, 0)", x.chance(0, 1, -1, 0), SamePlace.NO);
         DUE.is("chance(0, 1, 0, 2)", x.chance(0, 1, 0, 2), SamePlace.NO);

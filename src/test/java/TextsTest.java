@@ -6,11 +6,16 @@ final class TextsTest {
         promise7();
         promise8();
         promise8Faults();
+        promise8Tokens();
+        promise8TooEarly();
         promise8Depth();
         promise8Ends();
+        promise8After();
         promise9();
         promise11Names();
+        promise11OneAhead();
         promise11Values();
+        promise11Wrapping();
         promise11Bounds();
         promise11Refusals();
         DUE.finish();
@@ -114,6 +119,85 @@ final class TextsTest {
         stands("near (1 < 2) < 3;off 1 < 2 and 2 < 3;worth not 1 < 2;");
     }
 
+    /** Each TOKEN is as long as can be, and blanks may be left out where two would not run together. */
+    private static void promise8Tokens() {
+        stands("near(1);off-1;worth(2);");
+        stands("near 1or 2and 3<4;off not(1);worth not-1;");
+        stands("near 5;off 5;worth minute*60;");
+        stands("near1;off0001;worth9999;");
+        stands("\n\nnear\n\n1\n;\noff\n2\n;\nworth\n3\n;\n\n");
+        fault("near minuteplace;", 5);
+        fault("near 5minute;", 6);
+        fault("near minute5;", 11);
+        fault("near 1or2;off 1;worth 1or 2or;", 29);
+        fault("near notminute;", 5);
+        fault("near not5orminute;", 9);
+        fault("near 1 offs;", 7);
+        fault("near 1;of 1;", 7);
+        fault("near 1;offs 1;", 7);
+        fault("near 00001;", 5);
+        fault("near 0 0;", 7);
+        fault("near 1;;", 7);
+        fault("near 1;near 1;", 7);
+        fault("near 1;off 1;off 1;", 13);
+        fault("worth 1;", 0);
+        fault("minute;", 0);
+        fault("5;", 0);
+        fault(";", 0);
+        fault(" \n ;", 3);
+        fault("NEAR 1;", 0);
+        fault("near off;", 5);
+        fault("near worth;", 5);
+        fault("near or 1;", 5);
+        fault("near and 1;", 5);
+        fault("near * 1;", 5);
+        fault("near < 1;", 5);
+        fault("near = 1;", 5);
+        fault("near 1 - + 1;", 9);
+        fault("near 1 <= 2;", 8);
+        fault("near (1 or 2;", 12);
+        fault("near ((1);", 9);
+        fault("near 1(2);", 6);
+        fault("near (1)(2);", 8);
+        fault("near (1)2;", 8);
+        fault("near 1 or 2 < 3 = 4;", 16);
+        fault("near (1 < 2 < 3);", 12);
+        fault("near " + (char) 127 + ";", 5);
+        fault("near " + (char) 255 + ";", 5);
+        fault((char) 0 + "near", 0);
+        fault("near 1;off 1;worth 1; near 1;", 22);
+        fault("near 1;off 1;worth 1;\t", 21);
+        fault("near 1;off 1;worth 1;12345", 21);
+    }
+
+    /** A text that ends too early: its size, with the blanks at its end. */
+    private static void promise8TooEarly() {
+        fault("n", 0);
+        fault("near\n", 5);
+        fault("near (", 6);
+        fault("near (  ", 8);
+        fault("near (1", 7);
+        fault("near -", 6);
+        fault("near not ", 9);
+        fault("near 1 <", 8);
+        fault("near 1 < ", 9);
+        fault("near 1 =", 8);
+        fault("near 1 +", 8);
+        fault("near 1 -", 8);
+        fault("near 1 *", 8);
+        fault("near 1 or", 9);
+        fault("near 1 and", 10);
+        fault("near 1;", 7);
+        fault("near 1; ", 8);
+        fault("near 1;off", 10);
+        fault("near 1;off 1;", 13);
+        fault("near 1;off 1;worth", 18);
+        fault("near 1;off 1;worth 1  ", 22);
+        // A TOKEN that can't stand there is first, though the text ends too early as well.
+        fault("near 1 or or", 10);
+        fault("near ((((((", 10);
+    }
+
     private static void promise8Depth() {
         stands("near (((((1)))));off 0;worth 0;");
         fault("near ((((((1))))));off 0;worth 0;", 10);
@@ -139,6 +223,22 @@ final class TextsTest {
         fault("near (((((-1)))));", 10);
         fault("near (((((not 1)))));", 10);
         fault("near ((((((((((((((((((((((((((((((((((((((((((((((((((((((((", 10);
+        // Five may be open again, once those ahead have ended; each part begins with none.
+        stands("near (((((1)))))+(((((2)))));off (((((1)))));worth -----1;");
+        stands("near -----1*-----1;off -----1<-----1;worth (-(-(1)));");
+        stands("near not not not not not 1 and not not not not not 1;off 0;worth 0;");
+        stands("near ((not -1)+(not -1))*((not -1)+(not -1));off 0;worth 0;");
+        fault("near (not(not -1));off (not(not(1)));worth (not(not(-1)));", 52);
+        fault("near (not(not -1));off (not(not(--1)));", 32);
+        stands("near not(not(not 1));off 0;worth 0;");
+        fault("near not(not(not not 1));", 17);
+        // A - ends with its ONE, a not only with its NOT.
+        stands("near -1 - -1 - -1 - -1 - -1 - -1;off 0;worth 0;");
+        fault("near not 1 + ----- 1;", 17);
+        stands("near not 1 + ---- 1;off 0;worth 0;");
+        fault("near not not (((1 + (1))));", 20);
+        stands("near not 1 or ----- 1;off 0;worth 0;");
+        stands("near (not 1) + ----- 1;off 0;worth 0;");
     }
 
     /** A text may fill THE TAPE, and nothing of an earlier one is read behind its end. */
@@ -160,6 +260,25 @@ final class TextsTest {
         DUE.is("letters behind the end", Due.read(x, "near"), -104);
         DUE.is("a FAULT", Due.read(x, "near x" + " ".repeat(90)), -105);
         DUE.is("blanks behind the end", Due.read(x, "near  "), -106);
+    }
+
+    /** What was read ahead of it, in vain as well, leaves nothing in a TEXT. */
+    private static void promise8After() {
+        SamePlace x = new SamePlace();
+        x.way(0, 0);
+        for (int i = 0; i < 3; i++) {
+            DUE.is("a long text in vain", Due.read(x, "near " + "1+".repeat(50) + "1;x"), -207);
+        }
+        DUE.is("no TEXT came", x.count(3), 1);
+        DUE.is("one that stands", Due.read(x, "near 7*7+" + "1+".repeat(10) + "1;off 3-5;worth 8;"), 1);
+        x.force(1);
+        DUE.is("its near", x.asks(0, 0, 0), 60);
+        DUE.is("its off", x.asks(1, 0, 0), -2);
+        DUE.is("its worth", x.asks(2, 0, 0), 8);
+        DUE.is("text() of no bytes", x.text(), -100);
+        DUE.is("it is no TEXT", x.count(3), 2);
+        DUE.is("THE RULE stays", x.count(5), 1);
+        DUE.is("its near stays", x.asks(0, 0, 0), 60);
     }
 
     private static void promise9() {
@@ -211,6 +330,24 @@ final class TextsTest {
         DUE.is("pace in 101", told("pace", 101), 0);
     }
 
+    /** pace without a sign, at the path's ends and where a WILD one begins anew. */
+    private static void promise11OneAhead() {
+        SamePlace x = new SamePlace();
+        Due.path(x, 5, 3, 0, 10);
+        Due.path(x, 0, 0, 599, 0, 600, 600);
+        Due.path(x, 4, 9, 0, 0, 600, 600);
+        x.force(Due.read(x, "near pace;off 0;worth points*10+way;"));
+        DUE.is("WILD in 1", x.asks(0, 0, 1), 1000);
+        DUE.is("WILD in 5, back", x.asks(0, 0, 5), 4000);
+        DUE.is("in 600, at the bound", x.asks(0, 1, 600), 9999);
+        DUE.is("in 599", x.asks(0, 1, 599), 0);
+        DUE.is("HALTING in 9", x.asks(0, 2, 9), 0);
+        DUE.is("HALTING in 10", x.asks(0, 2, 10), 9999);
+        DUE.is("POINTS and number of WAY 1", x.asks(2, 1, 0), 21);
+        x.clear(1);
+        DUE.is("no POINTS", x.asks(2, 1, 0), 1);
+    }
+
     private static int wildPace() {
         SamePlace x = new SamePlace();
         Due.path(x, 5, 3, 0, 10);
@@ -239,6 +376,20 @@ final class TextsTest {
         value("7", 7);
         value("7 and 5", 1);
         value("7 and 0", 0);
+        value("1 and 1", 1);
+        value("0 and 1", 0);
+        value("0 and 0", 0);
+        value("1 and 2 and 3", 1);
+        value("1 and 0 and 3", 0);
+        value("0 or 0 or 9", 1);
+        value("0-1 or 0", 1);
+        value("-1 and -1", 1);
+        value("not -1", 0);
+        value("3 < 3 or 3 = 3", 1);
+        value("0 < 0", 0);
+        value("0 = 0", 1);
+        value("-3 < -2", 1);
+        value("-2 < -3", 0);
         value("not 7", 0);
         value("not 0", 1);
         value("not not 7", 1);
@@ -261,6 +412,22 @@ final class TextsTest {
         // By 32 bits: 9999 * 9999 * 43 is 4299140043, which is 4172747 in an int.
         value("9999*9999*43-417*9999", 3164);
         value("9999*9999*9999*9999 < 0", (9999 * 9999 * 9999 * 9999) < 0 ? 1 : 0);
+    }
+
+    /** An E is an int: behind 2147483647 comes -2147483648. */
+    private static void promise11Wrapping() {
+        value("256*256*256*256", 0);
+        value("256*256*256*256 = 0", 1);
+        value("256*256*256*128 < 0", 1);
+        value("256*256*256*128", 0);
+        value("256*256*256*128-1", 9999);
+        value("0 < 256*256*256*128-1", 1);
+        value("-(256*256*256*128) = 256*256*256*128", 1);
+        value("256*256*256*128-1+1 < 0", 1);
+        value("not 256*256*256*256", 1);
+        value("256*256*256*256 or 0", 0);
+        value("256*256*256*128 and 1", 1);
+        value("0-256*256*256*128-1", 9999);
     }
 
     private static void promise11Bounds() {
