@@ -237,42 +237,28 @@ final class OneWayTest {
         Due.path(x, 0, 0, 0, 0, 600, 60);
         DUE.is("BEST by TEXT 0", x.half(0, 1), 600);
         DUE.is("its worth", x.half(0, 2), 60);
-        Due.read(x, "near 0;off 0;worth 50-(minute-70)*(minute-70);");
-        x.force(1);
-        DUE.is("BEST within", x.half(0, 1), 70);
-        DUE.is("its worth within", x.half(0, 2), 50);
-        Due.read(x, "near 0;off 0;worth 10*(20<minute)+5*(minute=20);");
-        x.force(2);
-        DUE.is("the first of like ones", x.half(0, 1), 21);
-        DUE.is("worth of the first", x.half(0, 2), 10);
-        Due.read(x, "near 0;off 0;worth minute-600;");
-        x.force(3);
-        DUE.is("all are worth 0", x.half(0, 1), 0);
-        DUE.is("worth 0", x.half(0, 2), 0);
-        Due.read(x, "near 0;off 0;worth minute;");
-        x.force(4);
-        DUE.is("half(0, 2) of no WAY", x.half(1, 2), -2);
-        DUE.is("half(0, 1) of no WAY", x.half(-1, 1), -2);
-        DUE.is("at the bound", x.half(0, 1), 99);
-        DUE.is("worth at the bound", x.half(0, 2), 99);
-        Due.read(x, "near 0;off 0;worth 5+3*(minute=1);");
-        x.force(5);
-        DUE.is("BEST in 1", x.half(0, 1), 1);
-        DUE.is("worth in 1", x.half(0, 2), 8);
-        bestAtTheEnds();
+        DUE.is("half(1, 1)", x.half(1, 1), -2);
+        DUE.is("half(1, 2)", x.half(1, 2), -2);
+        DUE.is("half(-1, 1)", x.half(-1, 1), -2);
+        best("50-(minute-70)*(minute-70)", 70, 50);
+        // Of like ones the first.
+        best("10*(20<minute)+5*(minute=20)", 21, 10);
+        best("7", 0, 7);
+        best("minute-600", 0, 0);
+        best("minute", 99, 99);
+        best("5+3*(minute=1)", 1, 8);
+        best("minute<1", 0, 1);
+        best("600<minute+1", 600, 1);
+        best("599<minute+1", 599, 1);
     }
 
-    private static void bestAtTheEnds() {
+    /** BEST and its worth by an E, for a WAY without POINTS. */
+    private static void best(String worth, int minute, int most) {
         SamePlace x = new SamePlace();
         x.way(0, 0);
-        Due.read(x, "near 0;off 0;worth 600<minute+1;");
-        x.force(1);
-        DUE.is("BEST in 600", x.half(0, 1), 600);
-        DUE.is("worth in 600", x.half(0, 2), 1);
-        Due.read(x, "near 0;off 0;worth minute<1;");
-        x.force(2);
-        DUE.is("BEST in 0", x.half(0, 1), 0);
-        DUE.is("worth in 0", x.half(0, 2), 1);
+        x.force(Due.read(x, "near 0;off 0;worth " + worth + ";"));
+        DUE.is("BEST by worth " + worth, x.half(0, 1), minute);
+        DUE.is("its worth by worth " + worth, x.half(0, 2), most);
     }
 
     private OneWayTest() {

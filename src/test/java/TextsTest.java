@@ -168,6 +168,9 @@ final class TextsTest {
         fault("near 1;off 1;worth 1; near 1;", 22);
         fault("near 1;off 1;worth 1;\t", 21);
         fault("near 1;off 1;worth 1;12345", 21);
+        for (String more : new String[] {"5", "minute", "near", "or", "not", "(", ")", "-", "<", "zz"}) {
+            fault("near 1;off 1;worth 1; " + more, 22);
+        }
     }
 
     /** A text that ends too early: its size, with the blanks at its end. */
